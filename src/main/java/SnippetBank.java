@@ -591,7 +591,10 @@ public final class SnippetBank {
         }
     }
 
-    /** Binds the pieces as if one of them (or NONE) had another own licence; earlier ones first, as later ones inherit. */
+    /**
+     * Binds the pieces as if one of them (or NONE) had been told another licence. The earlier ones
+     * come first, as the later ones take over what binds those.
+     */
     private void bind(Binding into, int limit, int toldPiece, int toldLicence) {
         for (int piece = 0; piece < pieceCount; piece++) {
             int own = piece == toldPiece ? toldLicence : pieces[piece].own;

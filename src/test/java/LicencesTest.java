@@ -42,6 +42,8 @@ public final class LicencesTest {
         bank.ask(2, 0);
         checks.due("12: binds one", bank.ofLicence(0, 5), 1);
         checks.due("12: patience is less", bank.ofLicence(0, 3), 3);
+        bank.tell(0, 1);
+        checks.due("12: binds all", bank.ofLicence(1, 5), 3);
         checks.refused("12: ofLicence(4, 0)", bank, Checks.INDEX, () -> bank.ofLicence(4, 0));
         checks.refused("12: ofLicence(-1, 0)", bank, Checks.INDEX, () -> bank.ofLicence(-1, 0));
         checks.refused("12: ofLicence(0, 6)", bank, Checks.ARGUMENT, () -> bank.ofLicence(0, 6));

@@ -216,6 +216,27 @@ public final class PiecesTest {
         checks.due("9: bound by one that is near now", bank.ofPiece(2, 3), 6);
     }
 
+    private static void comesFromTwo() {
+        SnippetBank bank = Checks.withStrangers();
+        Checks.keep(bank, 10, 11, 12, 13, 18, 19, 20, 21);
+        bank.copy(5, 0);
+        bank.keep();
+        checks.due("9: 1 of 1 print, from 0 and 2", bank.ofPiece(5, 5), 1 + 4);
+        checks.due("9: a copy of it comes from it, too", bank.ofPiece(6, 5), 1 + 4 + 32);
+        checks.due("9: what comes from 2", bank.ofPiece(2, 6), 32 + 64);
+        for (int licence = 0; licence < 3; licence++) {
+            bank.licence(0, 0, false, 3);
+            bank.tell(2 * licence, licence);
+        }
+        bank.tell(5, 2);
+        checks.due("9: bound by all three", bank.ofPiece(5, 3), 7);
+        bank.ask(5, 0);
+        bank.ask(5, 2);
+        checks.due("9: freed of two", bank.ofPiece(5, 4), 1 + 4);
+        checks.due("9: bound by the third", bank.ofPiece(5, 3), 2);
+        checks.due("9: the copy is near to 0 itself", bank.ofPiece(6, 3), 1 + 2);
+    }
+
     private static void promise9Nodes(SnippetBank bank) {
         checks.due("9: in no node", bank.ofPiece(3, 7), 0);
         bank.project();
@@ -277,6 +298,7 @@ public final class PiecesTest {
         promise8Share();
         printsDoNotCareForNames();
         promise9OfPiece();
+        comesFromTwo();
         promise10Nearness();
         checks.end();
     }

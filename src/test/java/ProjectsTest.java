@@ -204,6 +204,29 @@ public final class ProjectsTest {
         checks.due("19: which clashes with none", bank.ofProject(0, 2), 0);
     }
 
+    /** Of two licences of one piece, each is looked at: what it asks, and what it clashes with. */
+    private static void boundByTwo() {
+        SnippetBank bank = Checks.withStrangers();
+        bank.licence(1, 0, true, 0);
+        bank.licence(2, 0, false, 0);
+        bank.licence(0, 1, false, 0);
+        bank.licence(0, 2, false, 0);
+        bank.copy(0, 0);
+        int copy = bank.keep();
+        bank.tell(0, 0);
+        bank.tell(copy, 1);
+        bank.tell(1, 2);
+        bank.tell(2, 3);
+        bank.project();
+        bank.node(0, 0, copy);
+        bank.node(0, 1, 1);
+        bank.node(0, 1, 2);
+        bank.node(0, 0, 1);
+        bank.node(0, 0, 2);
+        checks.due("22: owes what both ask", bank.ofProject(0, 3), 3);
+        checks.due("19: those below, and beside it that of the strong one", bank.ofNode(0, 1, 3), 4 + 8 + 16);
+    }
+
     private static void promise20Notice() {
         SnippetBank bank = withTerms();
         checks.due("20: put up", bank.notice(0, 4, true), false);
@@ -353,6 +376,7 @@ public final class ProjectsTest {
         clashesOfOnePiece();
         strongOfEither();
         strongOfAnother();
+        boundByTwo();
         promise20Notice();
         promise21Ship();
         promise22OfProject();

@@ -9,7 +9,7 @@ public final class RoomTest {
     private static final int CALLS = 512;
     private static final long BYTES_OF_A_BANK = 20_000L;
     /** The machine's own doings may be counted in; an array a call would be far more. */
-    private static final long BYTES_OF_THE_CALLS = 8_000L;
+    private static final long BYTES_OF_THE_CALLS = 40_000L;
 
     private static final Checks checks = new Checks();
     private static final ThreadMXBean machine = (ThreadMXBean) ManagementFactory.getThreadMXBean();
