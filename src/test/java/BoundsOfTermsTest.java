@@ -122,16 +122,21 @@ public final class BoundsOfTermsTest {
 
     @Says(promise = 0, sentence = "(the first one is 0, the next other one is 1, and so on)")
     static void oneToFourNamesInOnePrint() {
-        SnippetBank bank = new SnippetBank();
-        for (int[] row : FOUR_NAMES) {
-            Checks.keep(bank, row);
-        }
         for (int one = 0; one < FOUR_NAMES.length; one++) {
+            SnippetBank bank = new SnippetBank();
+            for (int[] row : FOUR_NAMES) {
+                Checks.keep(bank, row);
+            }
             int[] row = FOUR_NAMES[one];
-            // 3, 0, 7, 4: other names, and not in their order.
-            Checks.write(bank, (row[0] * 7 + 3) % 10, (row[1] * 7 + 3) % 10, (row[2] * 7 + 3) % 10, (row[3] * 7 + 3) % 10);
+            // 3, 0, 7, 4: other names, and not in their order; then once more at the end of a long row.
+            int[] others = {(row[0] * 7 + 3) % 10, (row[1] * 7 + 3) % 10, (row[2] * 7 + 3) % 10, (row[3] * 7 + 3) % 10};
+            int[] atTheEnd = {10, 11, 12, 13, 14, 15, 16, 17, others[0], others[1], others[2], others[3]};
             for (int other = 0; other < FOUR_NAMES.length; other++) {
-                Bounds.due("names of " + one + " and " + other, bank.scan(other), one == other ? 100 : 0);
+                int due = one == other ? 100 : 0;
+                Checks.write(bank, others);
+                Bounds.due("names of " + one + " and " + other, bank.scan(other), due);
+                Checks.write(bank, atTheEnd);
+                Bounds.due("names of " + one + " at the end and " + other, bank.scan(other), due);
             }
         }
     }
@@ -421,6 +426,47 @@ public final class BoundsOfTermsTest {
         Bounds.due("of 5 and 9", bank.node(0, 1, -1), 5);
         Bounds.due("9", bank.node(0, 5, -1), 9);
         Bounds.due("all ten", bank.ofProject(0, 6), 1023);
+    }
+
+    /**
+     * Piece 2 is bound by the licences 0 to 2, piece 5 by 3 to 5, and of these only a and b clash. Node 1
+     * has piece 2; nodes 2, which is below it, and 3, which is not, have piece 5.
+     */
+    private static SnippetBank oneClashOfNine(int a, int b, boolean isAsking, int strong) {
+        SnippetBank bank = new SnippetBank();
+        for (int piece = 0; piece < 6; piece++) {
+            Checks.keepWords(bank, piece < 3 ? 10 : 14, 4);
+        }
+        for (int licence = 0; licence < 6; licence++) {
+            int asks = licence == (isAsking ? a : b) ? 16 : 0;
+            int forbids = licence == (isAsking ? b : a) ? 16 : 0;
+            bank.licence(asks, forbids, licence == strong, 0);
+            bank.tell(licence, licence);
+        }
+        bank.project();
+        bank.node(0, 0, 2);
+        bank.node(0, 1, 5);
+        bank.node(0, 0, 5);
+        return bank;
+    }
+
+    @Says(promise = 0, sentence = "if there are LICENCES a, by which the PIECE of the one is BOUND, and b, by which that of the other one is")
+    static void oneClashOfManyLicences() {
+        for (int k = 0; k < 18; k++) {
+            int a = k % 3;
+            int b = 3 + k / 3 % 3;
+            for (int strong = 0; strong < 6; strong++) {
+                SnippetBank bank = oneClashOfNine(a, b, k < 9, strong);
+                boolean isFar = strong == a || strong == b;
+                String what = a + " and " + b + " clash, strong is " + strong;
+                Bounds.due(what, bank.ofNode(0, 1, 3), isFar ? 4 + 8 : 4);
+                Bounds.due(what + ", below", bank.ofNode(0, 2, 3), 2);
+                Bounds.due(what + ", beside", bank.ofNode(0, 3, 3), isFar ? 2 : 0);
+                bank.tell(k % 2 == 0 ? a : b, -1);
+                int left = bank.ofNode(0, 1, 3) + bank.ofNode(0, 2, 3) + bank.ofNode(0, 3, 3);
+                Bounds.due(what + ", one of them is told no more", left, 0);
+            }
+        }
     }
 
     @Says(promise = 0, sentence = "(a and b can be the same one), that CLASH, and either one NODE is ABOVE the other one, or a or b is STRONG")
